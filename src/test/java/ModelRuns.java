@@ -24,9 +24,9 @@ public final class ModelRuns {
 
     private static boolean agrees(int seed) {
         Random random = new Random(seed);
-        Draw draw = new Draw(random, seed % 5);
         WallDesk desk = new WallDesk();
         Model model = new Model();
+        Draw draw = new Draw(random, seed % 5, model);
         for (int call = 0; call < CALLS; call++) {
             int op = draw.op(call);
             int[] a = draw.arguments(op);
@@ -77,16 +77,17 @@ public final class ModelRuns {
 
         private final Random random;
         private final int flavour;
-        private int taskKind;
+        private final Model model;
 
-        Draw(Random random, int flavour) {
+        Draw(Random random, int flavour, Model model) {
             this.random = random;
             this.flavour = flavour;
+            this.model = model;
         }
 
         int op(int call) {
-            if (call < 40) {
-                int[] first = {1, 2, 2, 3, 3, 8, 9, 9, 9, 9, 10, 11, 12};
+            if (call < 80) {
+                int[] first = {1, 1, 2, 3, 3, 8, 9, 9, 9, 9, 10, 11, 12};
                 return first[random.nextInt(first.length)];
             }
             int what = random.nextInt(10);
@@ -112,34 +113,42 @@ public final class ModelRuns {
             return random.nextInt(flavour == 4 ? 12 : 4);
         }
 
+        /** The number of one that there is, or now and then of the next. */
+        private int one(int size) {
+            return random.nextInt(random.nextInt(20) == 0 ? size + 1 : Math.max(size, 1));
+        }
+
         private int[] usual(int op) {
+            int kind = one(model.kinds.size());
+            int tasks = kind < model.kinds.size() ? model.kinds.get(kind).role.size() : 0;
+            int of = one(model.cases.size());
+            int ofTasks = of < model.cases.size() ? model.cases.get(of).doer.length : 0;
             switch (op) {
-                case 0: return three(1 + random.nextInt(random.nextInt(6) == 0 ? 1000 : 60), 0, 0);
+                case 0: return three(1 + random.nextInt(random.nextInt(6) == 0 ? 1000 : 20), 0, 0);
                 case 1: return three(user(), random.nextInt(3) == 0 ? 128 + random.nextInt(128) : random.nextInt(8), 0);
                 case 2: return three(random.nextInt(4) - 1, 0, 0);
-                case 3: return three(random.nextInt(8), 0, 0);
-                case 4: case 5: return three(user(), random.nextInt(12), 0);
-                case 6: return three(user(), random.nextInt(8), 1 + random.nextInt(100));
-                case 7: return three(random.nextInt(40), user(), 0);
-                case 9: return three(kindNumber(), random.nextInt(3), random.nextInt(4) == 0 ? random.nextInt(8) : 0);
-                case 10: case 11: return three(kindNumber(), random.nextInt(6), random.nextInt(6));
-                case 12: return three(kindNumber(), 1 + random.nextInt(6), 0);
-                case 13: return three(kindNumber(), 0, 0);
-                case 14: return three(random.nextInt(6), random.nextInt(16), user());
-                case 15: return three(random.nextInt(16), 0, 0);
-                case 16: return three(random.nextInt(6), random.nextInt(16), 0);
+                case 3: return three(one(model.firms.size()), 0, 0);
+                case 4: case 5: return three(user(), one(model.objects.size()), 0);
+                case 6: return three(user(), one(model.firms.size()), 1 + random.nextInt(100));
+                case 7: return three(lateOne(model.glasses.size()), user(), 0);
+                case 9: return three(kind, random.nextInt(3), random.nextInt(4) == 0 ? random.nextInt(1 << tasks) : 0);
+                case 10: case 11: return three(kind, one(tasks), one(tasks));
+                case 12: return three(kind, 1 + random.nextInt(6), 0);
+                case 13: return three(kind, 0, 0);
+                case 14: return three(one(ofTasks), of, user());
+                case 15: return three(of, 0, 0);
+                case 16: return three(one(ofTasks), of, 0);
                 case 17: return three(user(), random.nextInt(4), 0);
-                case 18: return three(random.nextInt(40), random.nextInt(5), 0);
-                case 19: return three(random.nextInt(240), random.nextInt(5), 0);
-                case 20: return three(random.nextInt(240), 0, 0);
-                case 21: return three(random.nextInt(240), random.nextInt(5), random.nextInt(8));
+                case 18: return three(one(model.glasses.size()), random.nextInt(5), 0);
+                case 19: return three(one(model.entries.size()), random.nextInt(5), 0);
+                case 20: return three(one(model.entries.size()), 0, 0);
+                case 21: return three(one(model.entries.size()), random.nextInt(5), random.nextInt(8));
                 default: return three(random.nextInt(7), 0, 0);
             }
         }
 
-        private int kindNumber() {
-            taskKind = random.nextInt(5) == 0 ? random.nextInt(4) : taskKind;
-            return taskKind;
+        private int lateOne(int size) {
+            return Math.max(0, size - 1 - random.nextInt(4));
         }
 
         private static int[] three(int a, int b, int c) {
@@ -177,13 +186,13 @@ public final class ModelRuns {
     private static final class Model {
         private int now;
         private final int[] roles = new int[12];
-        private final List<Integer> firms = new ArrayList<>();
-        private final List<Integer> objects = new ArrayList<>();
-        private final List<Touch> touches = new ArrayList<>();
-        private final List<ModelGlass> glasses = new ArrayList<>();
-        private final List<ModelKind> kinds = new ArrayList<>();
-        private final List<ModelCase> cases = new ArrayList<>();
-        private final List<ModelEntry> entries = new ArrayList<>();
+        final List<Integer> firms = new ArrayList<>();
+        final List<Integer> objects = new ArrayList<>();
+        final List<Touch> touches = new ArrayList<>();
+        final List<ModelGlass> glasses = new ArrayList<>();
+        final List<ModelKind> kinds = new ArrayList<>();
+        final List<ModelCase> cases = new ArrayList<>();
+        final List<ModelEntry> entries = new ArrayList<>();
 
         long answer(int op, int[] a) {
             switch (op) {

@@ -296,6 +296,7 @@ public final class PromiseTests {
 
     private static void glassLimits() {
         promise = 8;
+        threeDuties();
         WallDesk x = fiveFirms();
         x.read(0, 0);
         due("glass ends at 1, due at 101", x.glass(0, 1, 1), 0);
@@ -322,6 +323,22 @@ public final class PromiseTests {
         due("NEEDLESS before FULL", x.glass(0, 0, 1), -13);
         due("glasses", x.count(3), 40);
         due("a full row of glasses stops no reading", x.read(0, 0), 0);
+    }
+
+    private static void threeDuties() {
+        WallDesk x = fiveFirms();
+        x.firm(0);
+        x.firm(0);
+        x.read(0, 0);
+        due("first", x.glass(0, 1, 100), 0);
+        due("second", x.glass(0, 4, 100), 1);
+        due("third", x.glass(0, 5, 100), 2);
+        due("a fourth, though none is due", x.glass(0, 6, 100), -15);
+        due("another user's", x.read(1, 1), 0);
+        due("another user's glass", x.glass(1, 0, 100), 3);
+        due("see one", x.read(0, 1), 1);
+        due("see another", x.write(0, 4), 1);
+        due("saw both", x.told(0, 2), 18);
     }
 
     private static void glassOrder() {
@@ -458,6 +475,8 @@ public final class PromiseTests {
         due("again, the other way", x.apart(0, 0, 2), 0);
         due("another pair", x.apart(0, 0, 1), 1);
         due("a third pair", x.apart(0, 1, 2), 1);
+        due("the first pair still", x.apart(0, 2, 0), 0);
+        due("the second pair still", x.apart(0, 1, 0), 0);
         due("bound is another thing", x.bound(0, 0, 2), 1);
         x.open(0);
         due("while there are cases", x.apart(0, 0, 1), -2);
@@ -480,6 +499,8 @@ public final class PromiseTests {
         due("again, the other way", x.bound(0, 0, 2), 0);
         due("another pair", x.bound(0, 0, 1), 1);
         due("a pair that follows from others is new", x.bound(0, 1, 2), 1);
+        due("the first pair still", x.bound(0, 2, 0), 0);
+        due("the second pair still", x.bound(0, 1, 0), 0);
         due("apart is another thing", x.apart(0, 0, 2), 1);
         x.open(0);
         due("while there are cases", x.bound(0, 0, 1), -2);
@@ -759,6 +780,21 @@ public final class PromiseTests {
         due("done by another than the one with the role", x.canEnd(0), 0);
         x.roles(0, 2);
         due("whatever role he has now for what is done", x.canEnd(0), 1);
+
+        for (int task = 0; task < 6; task++) {
+            x = new WallDesk();
+            x.kind();
+            for (int i = 0; i < 6; i++) {
+                x.task(0, i, 0);
+            }
+            for (int user = 0; user < 12; user++) {
+                x.roles(user, 255 & ~(1 << task));
+            }
+            x.open(0);
+            due("all but task " + task + " by many", x.canEnd(0), 0);
+            x.roles(6, 1 << task);
+            due("task " + task + " by one", x.canEnd(0), 1);
+        }
 
         x = kindOf(6);
         x.most(0, 2);
