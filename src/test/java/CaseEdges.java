@@ -202,6 +202,9 @@ public final class CaseEdges extends Edges {
         x.gives("task(1, 0, 3)", 2).gives("apart(1, 0, 1)", 1).gives("bound(1, 0, 1)", 1).gives("most(1, 1)", 6);
         x.does("open(1)").refuses("task(1, 0, 0)", BAD).refuses("apart(1, 0, 2)", BAD).refuses("bound(1, 0, 2)", BAD);
         x.refuses("most(1, 2)", BAD);
+        forTwo(tasks(2)).refuses("bound(0, 0, 1)", BAD).gives("perform(0, 0, 0)", 1).gives("perform(1, 0, 1)", 0);
+        forTwo(tasks(2)).refuses("apart(0, 0, 1)", BAD).gives("perform(0, 0, 0)", 1).gives("perform(1, 0, 0)", 0);
+        forTwo(tasks(2)).refuses("most(0, 1)", BAD).gives("perform(0, 0, 0)", 1).gives("perform(1, 0, 0)", 0);
         // An opening that was refused leaves the kind to be altered.
         Trial empty = new Trial().does("kind()").refuses("open(0)", BAD).gives("task(0, 0, 0)", 0);
         empty.gives("most(0, 3)", 6);
@@ -238,6 +241,14 @@ public final class CaseEdges extends Edges {
                 x.does("task(0, " + (other == task ? 7 : 0) + ", 0)");
             }
             x.does("open(0)", "roles(0, 127)").gives("canEnd(0)", 0).does("roles(1, 128)").gives("canEnd(0)", 1);
+        }
+        // However many could do the others, it helps the one that nobody has the role of no bit.
+        for (int task = 0; task < 6; task++) {
+            Trial x = new Trial().does("kind()");
+            for (int other = 0; other < 6; other++) {
+                x.does("task(0, " + (other == task ? 7 : 0) + ", 0)");
+            }
+            withRole(x.does("open(0)"), 11).gives("canEnd(0)", 0).does("roles(0, 128)").gives("canEnd(0)", 1);
         }
     }
 

@@ -132,12 +132,14 @@ final class Probes {
             }
             put(calls, "task", kind, 0, 0);
             put(calls, "task", kind, 7, 63);
-            allTasks(group(), kind);
+            eachRole(kind);
+            togetherAndEachAlone(kind);
         }
     }
 
     /** Tells roles, and what must be before, of a kind by doing a new case of it last task first. */
-    private void allTasks(List<Call> calls, int kind) {
+    private void eachRole(int kind) {
+        List<Call> calls = group();
         put(calls, "open", kind);
         for (int role = 0; role < 8; role++) {
             put(calls, "roles", role, 1 << role);
@@ -148,6 +150,20 @@ final class Probes {
                 for (int user = 0; user < 8; user++) {
                     put(calls, "perform", task, cases, user);
                 }
+            }
+        }
+    }
+
+    /** Tells what is apart, and the most, by a user who is to do all of a case; what is bound, by one for each task. */
+    private void togetherAndEachAlone(int kind) {
+        for (int step = 0; step <= 1; step++) {
+            List<Call> calls = group();
+            put(calls, "open", kind);
+            for (int user = 0; user < USERS; user++) {
+                put(calls, "roles", user, 255);
+            }
+            for (int task = 0; task < 6; task++) {
+                put(calls, "perform", task, cases, task * step);
             }
         }
     }
