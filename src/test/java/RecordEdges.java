@@ -198,8 +198,8 @@ public final class RecordEdges extends Edges {
         String[] calls = {"read(3, 0)", "write(3, 0)", "write(3, 1)", "write(3, 4)", "glass(3, 0, 1)", "glass(3, 1, 1)",
                 "glass(3, 6, 1)", "takeOff(0, 0)", "takeOff(0, 3)", "perform(2, 0, 1)", "perform(1, 0, 1)",
                 "perform(0, 0, 3)", "perform(4, 0, 2)", "perform(0, 0, 0)", "open(1)", "most(0, 1)",
-                "apart(0, 0, 1)", "bound(0, 0, 1)",
-                "task(0, 0, 0)", "tick(0)", "firm(8)", "object(7)", "roles(0, 256)", "alter(0, 5, 1)"};
+                "apart(0, 0, 1)", "bound(0, 0, 1)", "task(0, 0, 0)", "tick(0)", "firm(8)", "object(7)",
+                "roles(0, 256)", "alter(0, 5, 1)"};
         int[] due = {WALL, WALL, LEAK, LEAK, NEEDLESS, RUNS, OWES, ROLE, APART, DONE, EARLY, ROLE, BOUND, STUCK, BAD,
                 BAD, BAD, BAD, BAD, BAD, BAD, BAD, BAD, BAD};
         for (int round = 0; round < 2; round++) {
