@@ -101,9 +101,11 @@ public final class ReadmeTests {
             return line;
         }
         String name = m.group(1);
+        String call = m.group(2);
         String want = Character.isLetter(m.group(3).charAt(0)) ? "WallDesk." + m.group(3) : m.group(3);
         String kept = name == null ? "" : line + "\n";
-        return kept + "ReadmeTests.due(\"" + m.group(2) + "\", " + (name == null ? m.group(2) : name) + ", " + want + ");";
+        String got = name == null ? call : name;
+        return kept + "ReadmeTests.due(\"" + call + "\", " + got + ", " + want + ");";
     }
 
     private static void constantsHold(List<String> lines) throws IllegalAccessException {
